@@ -21,7 +21,7 @@ public final class HedgeDuel {
 
     private static final int DEEDS = 5, NOTHING = 0, CLIP = 1, DUNG = 2, WATER = 3, LEAN = 4;
     private static final int CLIPPED = 2, DUNG_PRICE = 3, WATER_PRICE = 1, PLANT_PRICE = 5, MOST_LEAN = 3;
-    private static final int MORE_BY_DUNG = 2, MORE_BY_WATER = 1, LEAST_FOR_DUNG = 3;
+    private static final int MORE_BY_DUNG = 2, MORE_BY_WATER = 1, LEAST_FOR_DUNG = 3, SCORCHED = 1;
 
     private static final int LOSS = 100, PLAY_SHIFT = 200, UNREACHED = 100000;
 
@@ -435,9 +435,10 @@ public final class HedgeDuel {
         if (depth >= plan.months || depth >= MOST_PLANNED) {
             return plan.isReached(depth);
         }
+        int answer = plan.attack ? NOTHING : DUNG;
         for (int deed = 0; deed < DEEDS; deed++) {
             setCell(plan.row, depth, deed);
-            plan.tryAlone(depth, deed);
+            plan.attempt(depth, plan.side == 0 ? deed : answer, plan.side == 0 ? answer : deed);
             if (finds(plan, depth + 1)) {
                 return true;
             }
@@ -453,8 +454,9 @@ public final class HedgeDuel {
         int best = -UNREACHED;
         for (int a = 0; a < DEEDS; a++) {
             int worst = UNREACHED;
-            for (int b = 0; b < DEEDS; b++) {
-                plan.tryBoth(depth, a, b);
+            // an answer that brings this deed down to the best one rules it out, so no other is looked at
+            for (int b = 0; b < DEEDS && worst > best; b++) {
+                plan.attempt(depth, a, b);
                 worst = Math.min(worst, bestLead(plan, depth + 1));
             }
             if (worst > best) {
@@ -649,10 +651,6 @@ public final class HedgeDuel {
             dark = cell(cells, from + 4);
         }
 
-        void lower(int by) {
-            high = Math.max(0, high - by);
-        }
-
         int shadowLength(int sun) {
             return high * (10 - sun) / 3;
         }
@@ -739,6 +737,7 @@ public final class HedgeDuel {
             if (loser(strip) != NONE) {
                 return;
             }
+            // what grows more by 1 has had water: dung brings 2 or nothing
             int moreFirst = tend(first, a);
             int moreSecond = tend(second, b);
             if (!dry || moreFirst == MORE_BY_WATER) {
@@ -755,41 +754,22 @@ public final class HedgeDuel {
 
         /** Does a deed, if it can be done: how much more the hedge grows by it. */
         int tend(Hedge own, int deed) {
-            switch (deed) {
-                case CLIP:
-                    own.lower(CLIPPED);
-                    return 0;
-                case DUNG:
-                    return dung(own);
-                case WATER:
-                    return water(own);
-                case LEAN:
-                    own.lean = Math.min(MOST_LEAN, own.lean + 1);
-                    return 0;
-                default:
-                    return 0;
+            if (deed == CLIP) {
+                own.high = Math.max(0, own.high - CLIPPED);
+            } else if (deed == LEAN) {
+                own.lean = Math.min(MOST_LEAN, own.lean + 1);
+            } else if (deed == DUNG && own.coins >= DUNG_PRICE) {
+                own.coins -= DUNG_PRICE;
+                if (own.high >= LEAST_FOR_DUNG) {
+                    return MORE_BY_DUNG;
+                }
+                own.high = Math.max(0, own.high - SCORCHED);
+            } else if (deed == WATER && own.coins >= WATER_PRICE && well > 0) {
+                own.coins -= WATER_PRICE;
+                well--;
+                return MORE_BY_WATER;
             }
-        }
-
-        int dung(Hedge own) {
-            if (own.coins < DUNG_PRICE) {
-                return 0;
-            }
-            own.coins -= DUNG_PRICE;
-            if (own.high < LEAST_FOR_DUNG) {
-                own.lower(1);
-                return 0;
-            }
-            return MORE_BY_DUNG;
-        }
-
-        int water(Hedge own) {
-            if (own.coins < WATER_PRICE || well < 1) {
-                return 0;
-            }
-            own.coins -= WATER_PRICE;
-            well--;
-            return MORE_BY_WATER;
+            return 0;
         }
     }
 
@@ -877,15 +857,11 @@ public final class HedgeDuel {
             work.restore(levels, depth * Garden.CELLS);
         }
 
-        void tryBoth(int depth, int a, int b) {
+        /** Puts what becomes of the garden at this depth at the next one. */
+        void attempt(int depth, int a, int b) {
             open(depth);
-            work.turn(strip, a, b);
+            work.turnBy(strip, a, b, strip.isDry(work.months));
             work.store(levels, (depth + 1) * Garden.CELLS);
-        }
-
-        void tryAlone(int depth, int deed) {
-            int answer = attack ? NOTHING : DUNG;
-            tryBoth(depth, side == 0 ? deed : answer, side == 0 ? answer : deed);
         }
 
         boolean isReached(int depth) {
