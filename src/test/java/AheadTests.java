@@ -54,6 +54,10 @@ public final class AheadTests {
         Check.is("has lost", duel.behind(0, 2), 0);
         Check.is("stays lost", duel.behind(9, 2), 0);
         Check.is("as it is", duel.behind(9, 1), 16);
+        HedgeDuel leaning = Check.laid("l12;h0,3,0,0;h1,1,4,0;r1;");
+        leaning.act(0, 4);
+        Check.is("7 high, a shadow of 11, not yet", leaning.behind(1, 2), NONE);
+        Check.is("11 of 12, leaning", leaning.behind(2, 2), 0);
         Check.is("P 1 can lose", Check.laid("l1;h1,3,0,9;h0,1,20,9;r1;").behind(1, 2), 1);
     }
 
