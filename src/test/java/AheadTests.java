@@ -218,7 +218,7 @@ public final class AheadTests {
     }
 
     private static void kind() {
-        String calm = "l40;r6;s0,9;s1,9;s2,9;s3,9;s4,9;s5,9;s6,9;s7,9;s8,9;s9,9;s10,9;s11,9;";
+        String calm = Check.CALM;
         kinds(calm + "h0,3,0,0;h1,1,0,0;", 0, 1, 0, 3);
         kinds(calm + "h0,3,0,0;h1,1,0,0;", 1, 1, 0, 3);
         kinds(calm + "h0,3,0,0;", 0, 8, 0, 24);
@@ -231,7 +231,7 @@ public final class AheadTests {
         kinds(calm + "h0,3,40,0;", 0, 24, 0, 40);
         kinds(calm + "h0,3,40,0;d0;", 0, 1, 0, 40);
         kinds(calm + "h0,3,9,0;d0;", 0, 1, 0, 9);
-        kinds(calm + "h0,3,9,0;d0;d1;d2;d3;d4;d5;d6;d7;d8;d9;d10;d11;", 0, 24, 0, 9);
+        kinds(calm + "h0,3,9,0;" + Check.ALL_DRY, 0, 24, 0, 9);
         kinds(calm + "h0,1,26,0;h1,2,25,0;", 1, 1, 4, 27);
         kinds(calm + "h0,1,26,0;h1,2,25,0;", 0, 24, 1, 40);
         HedgeDuel duel = Check.laid(LOST);

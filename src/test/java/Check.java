@@ -1,5 +1,9 @@
 /** What the tests share: comparing answers, counting, and making duels from texts. */
 final class Check {
+    /** Nobody is shaded on it: the sun is 9 in all months, the strip 40 long. */
+    static final String CALM = "l40;r6;s0,9;s1,9;s2,9;s3,9;s4,9;s5,9;s6,9;s7,9;s8,9;s9,9;s10,9;s11,9;";
+    static final String ALL_DRY = "d0;d1;d2;d3;d4;d5;d6;d7;d8;d9;d10;d11;";
+
     private static int passed = 0;
     private static int failed = 0;
 
@@ -53,6 +57,27 @@ final class Check {
     /** KIND, height, lean, coins, months on end of P. */
     static int[] hedge(HedgeDuel duel, int p) {
         return new int[] {duel.hedge(p, 0), duel.hedge(p, 1), duel.hedge(p, 2), duel.hedge(p, 3), duel.hedge(p, 6)};
+    }
+
+    static int[] counts(HedgeDuel duel) {
+        int[] counts = new int[9];
+        for (int what = 0; what < 9; what++) {
+            counts[what] = duel.count(what);
+        }
+        return counts;
+    }
+
+    /** All that can be asked, then all that comes by undoing and going back, until nothing is left of it. */
+    static String drained(HedgeDuel duel) {
+        StringBuilder drained = new StringBuilder(all(duel));
+        for (int i = 0; i < 10; i++) {
+            drained.append(" undo ").append(duel.undo()).append(' ').append(all(duel));
+        }
+        for (int i = 0; i < 4; i++) {
+            drained.append(" back ").append(duel.back()).append(' ').append(all(duel));
+        }
+        drained.append(" forget ").append(duel.forget());
+        return drained.append(" lay ").append(duel.lay()).append(' ').append(all(duel)).toString();
     }
 
     /** All that can be asked about how things stand, for 'nothing changes'. */

@@ -3,8 +3,7 @@ public final class MonthTests {
     private static final int BAD = -1, NO = -2, NONE = -4;
     private static final int NOTHING = 0, CLIP = 1, DUNG = 2, WATER = 3, LEAN = 4;
 
-    /** Nobody is shaded on it: the sun is 9 in all months but the last, the strip 40 long. */
-    private static final String CALM = "l40;r6;s0,9;s1,9;s2,9;s3,9;s4,9;s5,9;s6,9;s7,9;s8,9;s9,9;s10,9;s11,9;";
+    private static final String CALM = Check.CALM;
 
     public static void main(String[] args) {
         growth();

@@ -2,8 +2,7 @@
 public final class SeenTests {
     private static final int BAD = -1, NO = -2, FULL = -3;
 
-    /** Nobody is shaded on it. */
-    private static final String CALM = "l40;r6;s0,9;s1,9;s2,9;s3,9;s4,9;s5,9;s6,9;s7,9;s8,9;s9,9;s10,9;s11,9;";
+    private static final String CALM = Check.CALM;
     private static final String LOST = "l1;h0,3,0,9;h1,1,20,9;r1;";
 
     public static void main(String[] args) {
