@@ -42,6 +42,7 @@ public final class MonthEdgeTests {
         plantKeepsMonthsOnEnd();
         undoOfNothing();
         undoEightAtMost();
+        undoEightPlantings();
         undoOfTwentyFourAtOnce();
         undoOfALoss();
         undoOfWhatWasRefused();
@@ -543,17 +544,22 @@ public final class MonthEdgeTests {
             Check.is("no more of " + done, duel.undo(), NO);
             Check.is("months left of " + done, duel.count(1), done - can);
         }
-        HedgeDuel mixed = calm("h0,1,5,99;");
-        mixed.plant(0, YEW);
-        for (int i = 0; i < 8; i++) {
-            mixed.plant(0, i % 5);
+    }
+
+    /** Plantings count as months do: of the nine of either P the first one can not be undone. */
+    private static void undoEightPlantings() {
+        for (int p = 0; p < 2; p++) {
+            HedgeDuel duel = calm("h" + p + ",4,5,99;");
+            for (int i = 0; i < 9; i++) {
+                duel.plant(p, (i + 1) % 5);
+            }
+            Check.is("eight plantings can be", duel.count(6), 8);
+            for (int i = 7; i >= 0; i--) {
+                Check.is("undo of a planting", duel.undo(), i);
+                Check.are("as planted " + i, Check.hedge(duel, p), (i + 1) % 5, 1, 0, 94 - 5 * i, 0);
+            }
+            Check.is("no more", duel.undo(), NO);
         }
-        Check.is("plantings count too", mixed.count(6), 8);
-        for (int i = 0; i < 8; i++) {
-            mixed.undo();
-        }
-        Check.are("the first of nine stays", Check.hedge(mixed, 0), YEW, 1, 0, 94, 0);
-        Check.is("no more", mixed.undo(), NO);
     }
 
     /** 'all that go by at one time are one'. */

@@ -1,4 +1,6 @@
+import java.util.ArrayList;
 import java.util.LinkedHashMap;
+import java.util.List;
 import java.util.Map;
 import java.util.function.Supplier;
 
@@ -32,7 +34,10 @@ public final class RefusedTests {
         new RefusedTests("lost", RefusedTests::lost).refusedWhenLost();
         new RefusedTests("a fault", RefusedTests::faulty).refused("lay", HedgeDuel::lay, NO);
         new RefusedTests("poor", RefusedTests::poor).refusedWhenPoor();
+        states.put("near", RefusedTests::near);
+        states.put("poor", RefusedTests::poor);
         states.forEach((name, state) -> new RefusedTests(name, state).askedOnly());
+        states.forEach((name, state) -> new RefusedTests(name, state).askedInAnyOrder());
         Check.end("RefusedTests");
     }
 
@@ -72,6 +77,14 @@ public final class RefusedTests {
     private static HedgeDuel poor() {
         HedgeDuel duel = Check.laid("l40;h0,1,3,4;h1,1,3,0;");
         duel.act(0, 0);
+        return duel;
+    }
+
+    /** Either can lose within a few months. */
+    private static HedgeDuel near() {
+        HedgeDuel duel = Check.laid("l9;h0,1,5,9;h1,3,4,9;r2;w3;d1;s3,8;");
+        duel.act(0, 2);
+        duel.see(0, 2, 7);
         return duel;
     }
 
@@ -256,6 +269,44 @@ public final class RefusedTests {
         asked("month", duel -> duel.month(99, 1));
         asked("count", duel -> duel.count(8));
         asked("fault", HedgeDuel::fault);
+    }
+
+    /** The same questions of a duel that was asked nothing yet, one behind the other, and backwards. */
+    private void askedInAnyOrder() {
+        List<Call> questions = questions();
+        List<Integer> due = new ArrayList<>();
+        for (Call question : questions) {
+            due.add(question.on(state.get()));
+        }
+        HedgeDuel forwards = state.get();
+        HedgeDuel backwards = state.get();
+        for (int i = 0, k = questions.size() - 1; k >= 0; i++, k--) {
+            Check.is(name + ": question " + i + " behind others", questions.get(i).on(forwards), due.get(i));
+            Check.is(name + ": question " + k + " backwards", questions.get(k).on(backwards), due.get(k));
+        }
+    }
+
+    private static List<Call> questions() {
+        List<Call> questions = new ArrayList<>();
+        for (int side = 0; side <= 1; side++) {
+            int p = side;
+            questions.add(duel -> duel.did(p));
+            questions.add(duel -> duel.was(p));
+            for (int number = 0; number <= 5; number++) {
+                int n = number;
+                questions.add(duel -> duel.soonest(p, n));
+                questions.add(duel -> duel.hold(p, n, 1));
+                questions.add(duel -> duel.hold(p, n, n));
+                questions.add(duel -> duel.play(n, p));
+                questions.add(duel -> duel.kind(p, n * 5, n % 2));
+                questions.add(duel -> duel.drought(p, n, 4, n % 2));
+                questions.add(duel -> duel.behind(n * 7, n % 3));
+                questions.add(duel -> duel.year(n * 999, n * 8, n % 3));
+                questions.add(duel -> duel.hedge(p, n));
+                questions.add(duel -> duel.count(n));
+            }
+        }
+        return questions;
     }
 
     private void asked(String call, Call question) {

@@ -251,10 +251,14 @@ public final class TextEdgeTests {
         Check.is("lay of one item", duel.lay(), 8);
     }
 
-    /** '12 without', '0, 1 high, 20 without', '5 without', '10 without', '2 without'. */
+    /** '12 without', '0, 1 high, 20 without', '5 without', '10 without', '2 without': whatever was laid before. */
     private static void withoutAnyItem() {
         for (String text : new String[] {"l30;", "h0,4,30,9;", "h1,3,7,0;", "s4,9;", "w0;", "d4;", "r6;"}) {
-            HedgeDuel duel = Check.laid(text);
+            HedgeDuel duel = Check.laid("l9;h0,2,8,7;h1,1,6,5;s0,1;s3,2;s4,3;s11,4;w77;r5;" + Check.ALL_DRY);
+            duel.act(4, 4);
+            duel.wipe();
+            Check.put(duel, text);
+            duel.lay();
             char letter = text.charAt(0);
             Check.is("strip by " + text, duel.count(0), letter == 'l' ? 30 : 12);
             Check.is("well by " + text, duel.count(2), letter == 'w' ? 0 : 10);
