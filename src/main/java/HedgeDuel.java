@@ -618,6 +618,10 @@ public final class HedgeDuel {
         int coins;
         /** Months on end in which its owner has been shaded. */
         int dark;
+        /** By how much more it grows in the month that goes by; no copy needs it, as every deed sets it anew. */
+        int more;
+        /** Whether it has water in that month. */
+        boolean wet;
 
         void begin(int newSort, int newHigh, int newCoins) {
             sort = newSort;
@@ -655,10 +659,17 @@ public final class HedgeDuel {
             return high * (10 - sun) / 3;
         }
 
-        /** Growth of a month to which more comes by dung or water. */
-        void grow(int months, int more) {
+        void takeDung() {
+            if (high >= LEAST_FOR_DUNG) {
+                more = MORE_BY_DUNG;
+            } else {
+                high = Math.max(0, high - SCORCHED);
+            }
+        }
+
+        void grow(int months, boolean dry) {
             int bound = cell(BOUND, sort);
-            if (high > bound) {
+            if (high > bound || (dry && !wet)) {
                 return;
             }
             int month = Math.floorMod(months, YEAR_LENGTH);
@@ -737,39 +748,33 @@ public final class HedgeDuel {
             if (loser(strip) != NONE) {
                 return;
             }
-            // what grows more by 1 has had water: dung brings 2 or nothing
-            int moreFirst = tend(first, a);
-            int moreSecond = tend(second, b);
-            if (!dry || moreFirst == MORE_BY_WATER) {
-                first.grow(months, moreFirst);
-            }
-            if (!dry || moreSecond == MORE_BY_WATER) {
-                second.grow(months, moreSecond);
-            }
+            tend(first, a);
+            tend(second, b);
+            first.grow(months, dry);
+            second.grow(months, dry);
             int sun = strip.sunIn(months);
             first.dark = isShaded(0, sun, strip.length) ? first.dark + 1 : 0;
             second.dark = isShaded(1, sun, strip.length) ? second.dark + 1 : 0;
             months++;
         }
 
-        /** Does a deed, if it can be done: how much more the hedge grows by it. */
-        int tend(Hedge own, int deed) {
+        /** Does a deed, if it can be done; what it brings the hedge is for the growth of this month. */
+        void tend(Hedge own, int deed) {
+            own.more = 0;
+            own.wet = false;
             if (deed == CLIP) {
                 own.high = Math.max(0, own.high - CLIPPED);
             } else if (deed == LEAN) {
                 own.lean = Math.min(MOST_LEAN, own.lean + 1);
             } else if (deed == DUNG && own.coins >= DUNG_PRICE) {
                 own.coins -= DUNG_PRICE;
-                if (own.high >= LEAST_FOR_DUNG) {
-                    return MORE_BY_DUNG;
-                }
-                own.high = Math.max(0, own.high - SCORCHED);
+                own.takeDung();
             } else if (deed == WATER && own.coins >= WATER_PRICE && well > 0) {
                 own.coins -= WATER_PRICE;
                 well--;
-                return MORE_BY_WATER;
+                own.more = MORE_BY_WATER;
+                own.wet = true;
             }
-            return 0;
         }
     }
 
